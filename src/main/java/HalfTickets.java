@@ -121,7 +121,7 @@ public final class HalfTickets {
         if (leaver == null) {
             return NO_SUCH;
         }
-        if (leaver.place != QUEUED) {
+        if (leaver.where != QUEUED) {
             return NOT_POSSIBLE;
         }
         history.remember(now);
@@ -155,7 +155,7 @@ public final class HalfTickets {
             return BAD_VALUE;
         }
         switch (what) {
-            case 0: return asked.place;
+            case 0: return asked.where;
             case 1: return asked.standsAt();
             case 2: return now.placeInQueue(asked);
             case 3: return asked.hasHalf ? 1 : 0;
@@ -216,14 +216,14 @@ public final class HalfTickets {
         if (asked == null) {
             return NO_SUCH;
         }
-        if (asked.place == DONE) {
+        if (asked.where == DONE) {
             return 0;
         }
         trial.become(now);
         Person followed = trial.personAt(person);
         for (int ticks = 1; ticks <= LONGEST_OUTLOOK; ticks++) {
             trial.tick();
-            if (followed != null && followed.place == DONE) {
+            if (followed != null && followed.where == DONE) {
                 return ticks;
             }
         }
@@ -394,10 +394,10 @@ public final class HalfTickets {
             return open;
         }
 
-        int peopleWho(int place) {
+        int peopleWho(int where) {
             int found = 0;
             for (Person person : persons) {
-                found += person.place == place ? 1 : 0;
+                found += person.where == where ? 1 : 0;
             }
             return found;
         }
@@ -450,13 +450,13 @@ public final class HalfTickets {
             }
         }
 
+        /** Who has not come yet is as new in every state, so nothing has to be reset. */
         private void admit(Pad pad, int from, int behind) {
             if (people >= persons.length) {
                 return;
             }
             Person person = persons[people];
             people++;
-            person.come();
             for (int index = from; index < behind; index++) {
                 person.addToErrand(pad.windowAt(index));
             }
@@ -465,7 +465,7 @@ public final class HalfTickets {
 
         /** The person is at the window that it needs next. */
         private void joinQueue(Person person) {
-            person.place = QUEUED;
+            person.where = QUEUED;
             person.waitsHere = 0;
             Window window = windowAt(person.standsAt());
             if (window != null) {
@@ -545,7 +545,7 @@ public final class HalfTickets {
                 }
                 window.queue.remove(first.number);
                 window.serving.append(first.number);
-                first.place = BEING_SERVED;
+                first.where = BEING_SERVED;
                 first.servedFor = 0;
             }
         }
@@ -553,7 +553,7 @@ public final class HalfTickets {
         private void waitInQueues() {
             int patience = settings[LEAVES];
             for (Person person : persons) {
-                if (person.place == QUEUED) {
+                if (person.where == QUEUED) {
                     person.waits++;
                     person.waitsHere++;
                     if (patience != 0 && person.waitsHere >= patience) {
@@ -593,7 +593,7 @@ public final class HalfTickets {
         final int number;
         final int[] errand = new int[LONGEST_ERRAND];
         int errandLength;
-        int place = NOT_COME;
+        int where = NOT_COME;
         /** Windows of the errand that it is through with. */
         int through;
         boolean hasHalf;
@@ -613,7 +613,7 @@ public final class HalfTickets {
         void become(Person other) {
             System.arraycopy(other.errand, 0, errand, 0, LONGEST_ERRAND);
             errandLength = other.errandLength;
-            place = other.place;
+            where = other.where;
             through = other.through;
             hasHalf = other.hasHalf;
             servedFor = other.servedFor;
@@ -622,18 +622,6 @@ public final class HalfTickets {
             sentBack = other.sentBack;
             goneBehind = other.goneBehind;
             cameInThisTick = other.cameInThisTick;
-        }
-
-        void come() {
-            errandLength = 0;
-            through = 0;
-            hasHalf = false;
-            servedFor = 0;
-            waits = 0;
-            waitsHere = 0;
-            sentBack = 0;
-            goneBehind = NONE;
-            cameInThisTick = false;
         }
 
         void addToErrand(int window) {
@@ -645,12 +633,12 @@ public final class HalfTickets {
 
         /** The window at which it is; NONE if it is at none. */
         int standsAt() {
-            boolean isThere = place == QUEUED || place == BEING_SERVED;
+            boolean isThere = where == QUEUED || where == BEING_SERVED;
             return isThere && through < errandLength ? errand[through] : NONE;
         }
 
         void goAs(int way, int behind) {
-            place = way;
+            where = way;
             hasHalf = false;
             goneBehind = behind;
         }
@@ -782,14 +770,17 @@ public final class HalfTickets {
                 char sign = text[index];
                 if (sign == ',' && digits > 0) {
                     digits = 0;
-                } else if (isWindow(sign) && digits < LONGEST_ERRAND
-                        && (digits == 0 || index == 0 || text[index - 1] != sign)) {
+                } else if (isWindow(sign) && digits < LONGEST_ERRAND && !repeatsAt(index)) {
                     digits++;
                 } else {
                     return index;
                 }
             }
             return digits == 0 ? length : NONE;
+        }
+
+        private boolean repeatsAt(int index) {
+            return index > 0 && index < length && text[index - 1] == text[index];
         }
 
         private static boolean isWindow(char sign) {

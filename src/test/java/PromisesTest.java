@@ -676,6 +676,27 @@ public final class PromisesTest {
         due("the most, not the first", 5, bestOf(most));
         HalfTickets enough = with("0,1");
         due("no more than now", NONE, bestOf(enough));
+        HalfTickets first = new HalfTickets();
+        first.clerks(0, 0);
+        come(first, "0");
+        due("the window 0", 0, bestOf(first));
+        HalfTickets last = new HalfTickets();
+        last.set(0, 6);
+        last.clerks(3, 0);
+        come(last, "01010123");
+        last.pass(5);
+        due("done in 51 ticks", NONE, bestOf(last));
+        last.pass(1);
+        due("done in 50 ticks", 3, bestOf(last));
+        HalfTickets full = new HalfTickets();
+        full.set(0, 6);
+        for (int window = 0; window < 6; window++) {
+            full.clerks(window, 3);
+        }
+        come(full, times("02,12,32,42", 4));
+        come(full, "02,12,32,42,52,52,52,52");
+        due("done in 50 ticks with 3 clerks", 21, full.ifPassed(50, 0));
+        due("a fourth one is not to be had", NONE, bestOf(full));
     }
 
     /** Ten people each at the windows 2 and 5, of whom 8 each are done in 50 ticks. */
@@ -709,6 +730,8 @@ public final class PromisesTest {
         due("who is being served stands in no queue", 5, x.longest());
         x.pass(2);
         due("nobody stands", NONE, x.longest());
+        come(x, "0");
+        due("the window 0", 0, x.longest());
     }
 
     private static void putting() {
@@ -833,6 +856,55 @@ public final class PromisesTest {
         same("state before it", states[3], stateOf(x));
     }
 
+    /** A state in which each number is another one than at first. */
+    private static HalfTickets eventful() {
+        HalfTickets x = new HalfTickets();
+        x.set(0, 1);
+        x.set(1, 20);
+        x.bring(3);
+        x.clerks(0, 3);
+        x.clerks(5, 0);
+        come(x, times("01", 9) + ",4350");
+        x.pass(5);
+        x.leave(9);
+        x.pass(1);
+        x.set(2, 40);
+        x.window(4, false);
+        return x;
+    }
+
+    private static void undoingAll() {
+        promise = "19 undo, 21 restore: everything";
+        HalfTickets x = eventful();
+        due("sent back", 2, x.count(14));
+        due("lost", 1, x.count(11));
+        due("brought", 12, x.count(12));
+        String before = stateOf(x);
+        x.save(0);
+        x.bring(0);
+        x.pass(1);
+        due("leaves window 1", 1, x.leave(firstInQueue(x)));
+        come(x, "012,01");
+        x.set(0, 3);
+        x.set(2, 0);
+        for (int change = 0; change < 6; change++) {
+            x.undo();
+        }
+        same("state behind undo", before, stateOf(x));
+        HalfTickets other = new HalfTickets();
+        due("the slots of another object", NOT_POSSIBLE, other.restore(0));
+        x.bring(1);
+        x.pass(20);
+        x.set(1, 0);
+        x.restore(0);
+        same("state behind restore", before, stateOf(x));
+        x.pass(20);
+        String later = stateOf(x);
+        HalfTickets again = eventful();
+        again.pass(20);
+        same("it goes on as it did", later, stateOf(again));
+    }
+
     /** Each of the changes once. */
     private static void change(HalfTickets x, int change) {
         switch (change) {
@@ -939,6 +1011,7 @@ public final class PromisesTest {
         wiping();
         faults();
         undoing();
+        undoingAll();
         saving();
         restoring();
         System.out.println(wrong == 0 ? "all promises hold" : wrong + " answers are wrong");

@@ -9,8 +9,11 @@ import java.util.Random;
  * that shares nothing with it; each answer must be the same, and at times all that can be asked.
  */
 public final class ModelTest {
-    private static final int RUNS = 1500;
-    private static final int CALLS = 512;
+    private static final int RUNS = 6000;
+    /** As many calls as the document allows, but for what the last step may need above it. */
+    private static final int LONG_RUN = 500;
+    /** Leaves room to ask all that can be asked. */
+    private static final int SHORT_RUN = 120;
     private static final int NO_SUCH = -1, BAD_VALUE = -2, BAD_TEXT = -3, TOO_MANY = -4, NOT_POSSIBLE = -5, NONE = -6;
 
     private static final class Someone {
@@ -526,6 +529,7 @@ public final class ModelTest {
     private final int longestPass;
     private final StringBuilder story = new StringBuilder();
     private boolean isWrong = false;
+    private int calls = 0;
 
     private ModelTest(int seed) {
         random = new Random(seed);
@@ -534,6 +538,7 @@ public final class ModelTest {
     }
 
     private void same(String call, int got, int want) {
+        calls++;
         if (got != want && !isWrong) {
             isWrong = true;
             System.out.println(story + call + " answered " + got + ", the model " + want);
@@ -715,21 +720,22 @@ public final class ModelTest {
         story.append(call).append('(').append(a).append(", ").append(b).append(") ");
     }
 
-    private boolean runs() {
-        for (int call = 0; call < CALLS && !isWrong; call++) {
+    private boolean runs(int mostCalls) {
+        while (calls < mostCalls && !isWrong) {
             step();
-            if (call % 3 == 0) {
-                compareAll();
-            }
+        }
+        if (mostCalls == SHORT_RUN) {
+            compareAll();
         }
         return !isWrong;
     }
 
     public static void main(String[] args) {
         int[] reached = new int[4];
+        int mostCalls = 0;
         for (int seed = 0; seed < RUNS; seed++) {
             ModelTest run = new ModelTest(seed);
-            if (!run.runs()) {
+            if (!run.runs(seed % 3 == 0 ? LONG_RUN : SHORT_RUN)) {
                 System.out.println("with seed " + seed);
                 System.exit(1);
             }
@@ -737,8 +743,10 @@ public final class ModelTest {
             reached[1] += run.model.now.lost;
             reached[2] += run.model.now.sentBack();
             reached[3] += run.model.now.time;
+            mostCalls = Math.max(mostCalls, run.calls);
         }
         System.out.println("all runs answer as the model: " + reached[0] + " done, " + reached[1] + " halves lost, "
-            + reached[2] + " sent back, " + reached[3] + " ticks at the ends of " + RUNS + " runs");
+            + reached[2] + " sent back, " + reached[3] + " ticks at the ends of " + RUNS + " runs of at most "
+            + mostCalls + " calls");
     }
 }

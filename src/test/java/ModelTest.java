@@ -720,6 +720,14 @@ public final class ModelTest {
         story.append(call).append('(').append(a).append(", ").append(b).append(") ");
     }
 
+    /** To where few ticks are left. */
+    private void passNearlyAll() {
+        for (int time = 0; time < 100; time++) {
+            told("pass", 99, 0);
+            same("", real.pass(99), model.pass(99));
+        }
+    }
+
     private boolean runs(int mostCalls) {
         while (calls < mostCalls && !isWrong) {
             step();
@@ -735,6 +743,9 @@ public final class ModelTest {
         int mostCalls = 0;
         for (int seed = 0; seed < RUNS; seed++) {
             ModelTest run = new ModelTest(seed);
+            if (seed % 30 == 0) {
+                run.passNearlyAll();
+            }
             if (!run.runs(seed % 3 == 0 ? LONG_RUN : SHORT_RUN)) {
                 System.out.println("with seed " + seed);
                 System.exit(1);

@@ -709,8 +709,11 @@ public final class HalfTickets {
         }
 
         void remember(Ministry state) {
+            if (next >= states.length) {
+                next = 0;
+            }
             states[next].become(state);
-            next = next + 1 < states.length ? next + 1 : 0;
+            next++;
             kept = Math.min(kept + 1, states.length);
         }
 

@@ -1,9 +1,7 @@
 import com.sun.source.tree.*;
-import com.sun.source.util.JavacTask;
 import com.sun.source.util.TreePath;
 import com.sun.source.util.TreePathScanner;
 import com.sun.source.util.Trees;
-import java.io.File;
 import java.lang.reflect.Constructor;
 import java.lang.reflect.Field;
 import java.lang.reflect.Method;
@@ -19,13 +17,9 @@ import java.util.Set;
 import java.util.TreeSet;
 import javax.lang.model.element.Element;
 import javax.lang.model.element.ExecutableElement;
-import javax.tools.JavaCompiler;
-import javax.tools.StandardJavaFileManager;
-import javax.tools.ToolProvider;
 
 /** The public face of the document, and those rules of LANGUAGE.md that can be seen in the source's tree. */
 public final class LanguageTest {
-    private static final String SOURCE = "src/main/java/HalfTickets.java";
     private static final int LONGEST_METHOD = 60, MOST_PARAMETERS = 7, MOST_CLASSES = 12, MOST_FIELDS = 20, DEEPEST = 8;
 
     private static final String FACE = "HalfTickets() set(int,int) window(int,boolean) clerks(int,int) bring(int) read() "
@@ -229,14 +223,9 @@ public final class LanguageTest {
     }
 
     private static void checkSource() throws Exception {
-        JavaCompiler compiler = ToolProvider.getSystemJavaCompiler();
-        StandardJavaFileManager files = compiler.getStandardFileManager(null, null, null);
-        JavacTask task = (JavacTask) compiler.getTask(null, files, null, List.of("-proc:none"), null,
-            files.getJavaFileObjects(new File(SOURCE)));
-        CompilationUnitTree unit = task.parse().iterator().next();
-        task.analyze();
-        Rules rules = new Rules(unit, Trees.instance(task));
-        rules.scan(unit, null);
+        Source source = Source.read();
+        Rules rules = new Rules(source.unit(), source.trees());
+        rules.scan(source.unit(), null);
         rules.checkWhole();
     }
 
